@@ -266,8 +266,8 @@ public final class TurnHost {
 
     /** The code: four cells to an instruction. */
     private static final class Program {
-        private final int[] cells;
-        private int count;
+        final int[] cells;
+        int count;
 
         Program() {
             this.cells = new int[4 * INSTRUCTIONS];
@@ -306,9 +306,9 @@ public final class TurnHost {
 
     /** Messages from the oldest on, and the mark among them, which may stand far behind the last. */
     private static final class Mailbox {
-        private final Term[] messages;
-        private int count;
-        private int mark;
+        final Term[] messages;
+        int count;
+        int mark;
 
         Mailbox() {
             this.messages = new Term[MESSAGES];
@@ -325,6 +325,10 @@ public final class TurnHost {
             return k >= 0 && k < count ? messages[k] : null;
         }
 
+        Term marked() {
+            return at(mark);
+        }
+
         /** Whether there was room for it. */
         boolean put(Term message) {
             if (count >= MESSAGES) {
@@ -337,7 +341,7 @@ public final class TurnHost {
 
         /** Whether there was a message at the mark to take. */
         boolean take() {
-            if (at(mark) == null) {
+            if (marked() == null) {
                 return false;
             }
             for (int k = mark + 1; k < count; k++) {
@@ -437,8 +441,8 @@ public final class TurnHost {
 
     /** The numbers of the ready processes; the one whose turn it is stands at 0. */
     private static final class Line {
-        private final int[] numbers;
-        private int count;
+        final int[] numbers;
+        int count;
 
         Line() {
             this.numbers = new int[PROCESSES];
@@ -627,10 +631,10 @@ public final class TurnHost {
                 case OP_CALL: return p.pushReturn() && p.goTo(a);
                 case OP_RETURN: return goBack(p);
                 case OP_SEND: return send(society.bearing(r[a]), r[b]);
-                case OP_PEEK: return goUnless(p, p.set(a, p.mailbox.at(p.mailbox.mark)), b);
+                case OP_PEEK: return goUnless(p, p.set(a, p.mailbox.marked()), b);
                 case OP_TAKE: return p.mailbox.take();
                 case OP_NEXT: return passOver(p, a);
-                case OP_WAIT: return await(p, a);
+                case OP_WAIT: return waitOrGoOn(p, a);
                 case OP_SPAWN: return spawn(p, a, b, r[c]);
                 case OP_LINK: return link(p, society.bearing(r[a]));
                 case OP_TRAP: return trap(p, a == 1);
@@ -669,9 +673,9 @@ public final class TurnHost {
             return p.goTo(l);
         }
 
-        private boolean await(HostProcess p, int l) {
+        private boolean waitOrGoOn(HostProcess p, int l) {
             // Messages stand without gaps: with none at the mark, there is none behind it either.
-            if (p.mailbox.at(p.mailbox.mark) == null) {
+            if (p.mailbox.marked() == null) {
                 society.suspend(p);
             }
             return p.goTo(l);

@@ -25,6 +25,8 @@ public final class ClearTest {
         Kit.due("none to clear", x.clear(false), 0);
         Kit.due("the code stays", x.add(Kit.RETURN, 0, 0, 0), 1);
         Kit.due("numbers begin anew", x.begin(0, 0), 0);
+        Kit.due("an ended one's reason is gone", x.term(0, Kit.REASON), -1);
+        Kit.due("and its digest", x.digest(0, Kit.REASON), 0);
         x.run(15);
         Kit.due("by the code", x.term(0, Kit.REASON), Kit.NORMAL);
     }
