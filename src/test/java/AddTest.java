@@ -1,19 +1,13 @@
 /** Promise 2. */
 public final class AddTest {
-    /** To an operation its three numbers: r a register, t an atom, s a sort, l an instruction, . any or none. */
-    private static final String[] NUMBERS = {
-        "r..", "rt.", "rr.", "r..", "r..", "rrr", "rrr", "rr.", "rr.", "rrr", "rrr",
-        "rrl", "rrl", "rsl", "l..", "l..", "...",
-        "rr.", "rl.", "...", "l..", "l..",
-        "rlr", "r..", "...", "r..", "r..",
-    };
-
     public static void main(String[] args) {
-        for (int operation = 0; operation < NUMBERS.length; operation++) {
+        for (int operation = 0; operation < 27; operation++) {
             for (int which = 0; which < 3; which++) {
-                edges(operation, which, limit(NUMBERS[operation].charAt(which)));
+                edges(operation, which, Kit.limit(operation, which));
             }
         }
+        theOthersDoNotHelp();
+        numbersThatItDoesNotHave();
         wrongOperations();
         atMost48();
         refusedLeavesNoTrace();
@@ -21,16 +15,7 @@ public final class AddTest {
         Kit.finish();
     }
 
-    private static int limit(char kind) {
-        switch (kind) {
-            case 'r': return 8;
-            case 't': return 16;
-            case 's': return 6;
-            case 'l': return 48;
-            default: return 0;
-        }
-    }
-
+    /** "a register not 0 .. 7, an atom not 0 .. 15, a sort not 0 .. 5, l not 0 .. 47" */
     private static void edges(int operation, int which, int limit) {
         for (int value : Kit.FAR_OUT) {
             one(operation, which, value, limit == 0);
@@ -57,6 +42,52 @@ public final class AddTest {
         Kit.due("the number after it", x.add(Kit.JUMP, 0, 0, 0), taken ? 2 : 1);
     }
 
+    /** "or one of its numbers is not as told": one is enough, with all the others at their last good one */
+    private static void theOthersDoNotHelp() {
+        for (int operation = 0; operation < 27; operation++) {
+            int[] last = new int[3];
+            for (int which = 0; which < 3; which++) {
+                last[which] = Math.max(0, Kit.limit(operation, which) - 1);
+            }
+            TurnHost x = new TurnHost(8);
+            for (int which = 0; which < 3; which++) {
+                if (Kit.limit(operation, which) > 0) {
+                    int[] n = last.clone();
+                    n[which]++;
+                    Kit.due("operation " + operation + ", number " + which, x.add(operation, n[0], n[1], n[2]), -1);
+                }
+            }
+            Kit.due("operation " + operation + ", the last good ones", x.add(operation, last[0], last[1], last[2]), 0);
+        }
+    }
+
+    /** "Numbers that it does not have count for nothing": the instruction does the same, whatever they are */
+    private static void numbersThatItDoesNotHave() {
+        for (int operation = 0; operation < 27; operation++) {
+            String due = done(operation, 1);
+            for (int value : Kit.FAR_OUT) {
+                Kit.due("operation " + operation + " with " + value, done(operation, value), due);
+            }
+        }
+    }
+
+    /** All that can be asked for after the operation, done with that for each number that it does not have, and 1 for those that it has. */
+    private static String done(int operation, int unused) {
+        int[] n = {1, 1, 1};
+        for (int which = 0; which < 3; which++) {
+            boolean anyInt = operation == Kit.INT && which == 1 || operation == Kit.TRAP && which == 0;
+            if (Kit.limit(operation, which) == 0 && !anyInt) {
+                n[which] = unused;
+            }
+        }
+        TurnHost x = Kit.host(8, Kit.op(Kit.SELF, 1), Kit.op(operation, n[0], n[1], n[2]), Kit.op(Kit.JUMP, 2));
+        x.begin(0, 4);
+        x.tell(0, 5);
+        x.run(4);
+        return Kit.state(x);
+    }
+
+    /** "-1, refused, if ... the operation is not 0 .. 26" */
     private static void wrongOperations() {
         TurnHost x = new TurnHost(8);
         for (int operation : Kit.FAR_OUT) {
@@ -67,6 +98,7 @@ public final class AddTest {
         Kit.due("operation 26", x.add(26, 0, 0, 0), 0);
     }
 
+    /** "-1, refused, if there are 48" */
     private static void atMost48() {
         TurnHost x = new TurnHost(50);
         for (int k = 0; k < 48; k++) {
@@ -81,6 +113,7 @@ public final class AddTest {
         Kit.due("FAULT there", x.term(0, Kit.REASON), Kit.FAULT);
     }
 
+    /** "A call that is refused changes nothing": no instruction, not even in part */
     private static void refusedLeavesNoTrace() {
         TurnHost x = new TurnHost(8);
         x.add(Kit.INT, 1, 5, 0);

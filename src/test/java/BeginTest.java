@@ -8,6 +8,7 @@ public final class BeginTest {
         Kit.finish();
     }
 
+    /** "A new process at instruction l, with the int n in its register 0, ready: its number" */
     private static void newProcess() {
         TurnHost x = new TurnHost(4);
         Kit.due("its number", x.begin(7, -7), 0);
@@ -26,6 +27,7 @@ public final class BeginTest {
         Kit.due("in the queue", x.queue(0), 0);
     }
 
+    /** "-1, refused, if l is not 0 .. 47": whether there is an instruction or not */
     private static void placesAndTheirEdges() {
         TurnHost x = new TurnHost(4);
         for (int l : Kit.FAR_OUT) {
@@ -40,12 +42,14 @@ public final class BeginTest {
         Kit.due("the greatest int", x.digest(1, 0), (7 * 31 + 1) * 31 + Integer.MAX_VALUE);
     }
 
+    /** "-1, refused, if ... there are 12": ended ones, too */
     private static void atMost12() {
         TurnHost x = Kit.host(50, Kit.op(Kit.RETURN));
         for (int p = 0; p < 12; p++) {
             Kit.due("process " + p, x.begin(0, p), p);
         }
         Kit.due("the 13th", x.begin(0, 0), -1);
+        Kit.due("the 13th, at no place", x.begin(48, 0), -1);
         Kit.due("there are 12", x.processes(), 12);
         Kit.runOut(x);
         Kit.due("the 13th, with the others ended", x.begin(0, 0), -1);

@@ -5,6 +5,9 @@ public final class ClearTest {
         codeGoesToo();
         nothingIsLeftOfTheOldOnes();
         theTurnGoes();
+        howManyThereWere();
+        theQuotaStays();
+        allTheCodeStaysOrGoes();
         Kit.finish();
     }
 
@@ -31,6 +34,7 @@ public final class ClearTest {
         Kit.due("by the code", x.term(0, Kit.REASON), Kit.NORMAL);
     }
 
+    /** "the code is, too, if code is true" */
     private static void codeGoesToo() {
         TurnHost x = new TurnHost(4);
         for (int k = 0; k < 48; k++) {
@@ -80,5 +84,59 @@ public final class ClearTest {
         Kit.due("the new turn is whole", x.queue(0), 0);
         x.run(1);
         Kit.due("and over now", x.queue(0), 1);
+    }
+
+    /** "how many processes there were": from none to 12, whatever their states */
+    private static void howManyThereWere() {
+        for (int count = 0; count <= 12; count++) {
+            TurnHost x = Kit.host(1, Kit.op(Kit.RETURN), Kit.op(Kit.WAIT, 1), Kit.op(Kit.JUMP, 2));
+            for (int p = 0; p < count; p++) {
+                x.begin(p % 3, 0);
+            }
+            x.run(15);
+            Kit.due("so many", x.clear(count % 2 == 0), count);
+            Kit.due("none now", x.processes(), 0);
+            Kit.due("none in the queue", x.queue(0), -1);
+            Kit.due("none again", x.clear(count % 2 == 1), 0);
+            for (int p = 0; p < 12; p++) {
+                Kit.due("room for 12", x.begin(0, 0), p);
+            }
+            Kit.due("and no more", x.begin(0, 0), -1);
+        }
+    }
+
+    /** All processes and the code are gone, and nothing else */
+    private static void theQuotaStays() {
+        TurnHost x = Kit.host(3, Kit.op(Kit.JUMP, 0));
+        x.begin(0, 0);
+        x.run(2);
+        x.clear(true);
+        x.add(Kit.JUMP, 0, 0, 0);
+        x.begin(0, 0);
+        x.begin(0, 0);
+        x.run(2);
+        Kit.due("two of three", x.queue(0), 0);
+        x.run(1);
+        Kit.due("three", x.queue(0), 1);
+    }
+
+    /** "the code is, too, if code is true": all 48 of it, or none */
+    private static void allTheCodeStaysOrGoes() {
+        TurnHost x = Kit.host(50, Kit.join(Kit.times(47, Kit.JUMP, 47), Kit.one(Kit.INT, 1, 7)));
+        x.clear(false);
+        Kit.due("there are 48 still", x.add(Kit.NIL, 0, 0, 0), -1);
+        x.begin(0, 0);
+        Kit.due("the first, the last, and none", x.run(15), 3);
+        Kit.due("the last was done", x.term(0, 1), Kit.AN_INT + 7);
+        x.clear(true);
+        for (int k = 0; k < 48; k++) {
+            x.begin(k, 0);
+            Kit.due("no instruction at " + k, x.run(15), 1);
+            x.clear(false);
+        }
+        for (int k = 0; k < 48; k++) {
+            Kit.due("48 anew", x.add(Kit.NIL, 0, 0, 0), k);
+        }
+        Kit.due("and no more", x.add(Kit.NIL, 0, 0, 0), -1);
     }
 }

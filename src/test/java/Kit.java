@@ -55,10 +55,29 @@ final class Kit {
 
     static final int[] FAR_OUT = {Integer.MIN_VALUE, Integer.MIN_VALUE + 1, -1000000, -1, Integer.MAX_VALUE - 1, Integer.MAX_VALUE};
 
+    /** To an operation its three numbers: r a register, t an atom, s a sort, l an instruction, . any int or none. */
+    private static final String[] NUMBERS = {
+        "r..", "rt.", "rr.", "r..", "r..", "rrr", "rrr", "rr.", "rr.", "rrr", "rrr",
+        "rrl", "rrl", "rsl", "l..", "l..", "...",
+        "rr.", "rl.", "...", "l..", "l..",
+        "rlr", "r..", "...", "r..", "r..",
+    };
+
     private static int asked = 0;
     private static int wrong = 0;
 
     private Kit() {
+    }
+
+    /** What that number of the operation, 0 for a, must be less than; 0 if it may be any int, or there is none. */
+    static int limit(int operation, int which) {
+        switch (NUMBERS[operation].charAt(which)) {
+            case 'r': return 8;
+            case 't': return 16;
+            case 's': return 6;
+            case 'l': return 48;
+            default: return 0;
+        }
     }
 
     static void due(String what, long got, long want) {
@@ -71,6 +90,14 @@ final class Kit {
 
     static void due(String what, boolean got, boolean want) {
         due(what, got ? 1 : 0, want ? 1 : 0);
+    }
+
+    static void due(String what, String got, String want) {
+        asked++;
+        if (!got.equals(want)) {
+            wrong++;
+            System.out.println(what + " is\n  " + got + "\ndue is\n  " + want);
+        }
     }
 
     static void finish() {
@@ -118,5 +145,86 @@ final class Kit {
         x.begin(0, n);
         runOut(x);
         return x;
+    }
+
+    /** A host whose one process, with the int n in register 0, has run a code of several parts out. */
+    static TurnHost ranParts(int n, int[][]... parts) {
+        return ran(n, join(parts));
+    }
+
+    static int[][] join(int[][]... parts) {
+        java.util.List<int[]> all = new java.util.ArrayList<>();
+        for (int[][] part : parts) {
+            all.addAll(java.util.Arrays.asList(part));
+        }
+        return all.toArray(new int[0][]);
+    }
+
+    static int[][] one(int... numbers) {
+        return new int[][] {op(numbers)};
+    }
+
+    static int[][] times(int n, int... numbers) {
+        int[][] all = new int[n][];
+        for (int k = 0; k < n; k++) {
+            all[k] = op(numbers);
+        }
+        return all;
+    }
+
+    /** Makes register r, not 0, a chain of pairs of that weight, which is odd, out of the leaf in register 0. */
+    static int[][] chain(int r, int weight) {
+        return join(one(MOVE, r, 0), times((weight - 1) / 2, PAIR, r, r, 0));
+    }
+
+    /** Passes over the messages that there are, with the mark behind the last, and waits; the first of three at place. */
+    static int[][] passOverAndWait(int place) {
+        return new int[][] {op(PEEK, 7, place + 2), op(NEXT, place), op(WAIT, place)};
+    }
+
+    /** What digest makes of these steps. */
+    static int mix(int... steps) {
+        int s = 7;
+        for (int step : steps) {
+            s = s * 31 + step;
+        }
+        return s;
+    }
+
+    /** The digest of the TUPLE of EXIT and the TUPLE of a pid and a reason that has a number. */
+    static int notice(int pid, int sort, int number) {
+        return mix(6, 2, 15, 6, 3, pid, sort + 1, number);
+    }
+
+    /** The queue from its first on, as one text. */
+    static String queue(TurnHost x) {
+        StringBuilder all = new StringBuilder();
+        for (int k = 0, p = x.queue(0); k < 13 && p != -1; k++, p = x.queue(k)) {
+            all.append(k == 0 ? "" : " ").append(p);
+        }
+        return all.toString();
+    }
+
+    /** All that can be asked of a host, as one text: with 12 processes some 330 calls, and two more for each message. */
+    static String state(TurnHost x) {
+        StringBuilder all = new StringBuilder("queue ").append(queue(x));
+        int count = x.processes();
+        for (int p = 0; p < count; p++) {
+            all.append("; process ").append(p).append(':').append(state(x, p));
+        }
+        return all.toString();
+    }
+
+    static String state(TurnHost x, int p) {
+        StringBuilder all = new StringBuilder();
+        int[] answers = new int[8];
+        for (int what = 0; what < 8; what++) {
+            answers[what] = x.process(p, what);
+            all.append(' ').append(answers[what]);
+        }
+        for (int where = 0; where < MESSAGE + answers[MAIL]; where++) {
+            all.append(' ').append(x.term(p, where)).append('/').append(x.digest(p, where));
+        }
+        return all.toString();
     }
 }

@@ -15,6 +15,7 @@ public final class NewObjectTest {
         Kit.finish();
     }
 
+    /** "No code and processes." */
     private static void startsEmpty() {
         TurnHost x = new TurnHost(3);
         Kit.due("processes", x.processes(), 0);
@@ -31,6 +32,7 @@ public final class NewObjectTest {
         Kit.due("the first instruction", x.add(Kit.RETURN, 0, 0, 0), 0);
     }
 
+    /** "QUOTA is quota if that is 1 .. 50, else 8." */
     private static void quotaIs(int given, int want) {
         TurnHost x = Kit.host(given, Kit.op(Kit.JUMP, 0));
         x.begin(0, 0);

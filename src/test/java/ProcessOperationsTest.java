@@ -77,17 +77,8 @@ public final class ProcessOperationsTest {
         y.tell(0, 1);
         y.run(1);
         Kit.due("one that traps goes on", y.process(0, Kit.STATE), Kit.READY);
-        Kit.due("the notice", y.digest(0, Kit.MESSAGE + 1), notice(1, 1, 13));
+        Kit.due("the notice", y.digest(0, Kit.MESSAGE + 1), Kit.notice(1, 1, 13));
         Kit.due("no link", y.process(0, Kit.LINKS), 0);
-    }
-
-    /** The digest of TUPLE of EXIT and TUPLE of a pid and a reason with a number. */
-    private static int notice(int pid, int sort, int number) {
-        int s = 7 * 31 + 6;
-        s = (s * 31 + 2) * 31 + 15;
-        s = s * 31 + 6;
-        s = (s * 31 + 3) * 31 + pid;
-        return (s * 31 + sort + 1) * 31 + number;
     }
 
     private static void trapOnAndOff() {
@@ -137,14 +128,14 @@ public final class ProcessOperationsTest {
         TurnHost x = linkedPair(1, Kit.op(Kit.INT, 0, 77), Kit.op(Kit.NIL, 2));
         Kit.due("a notice", x.process(0, Kit.MAIL), 1);
         Kit.due("of weight 5", x.term(0, Kit.MESSAGE), 5000500);
-        Kit.due("the notice", x.digest(0, Kit.MESSAGE), notice(1, 0, 77));
+        Kit.due("the notice", x.digest(0, Kit.MESSAGE), Kit.notice(1, 0, 77));
         Kit.due("it was woken, and spins as there is mail", x.process(0, Kit.STATE), Kit.READY);
         Kit.due("no link", x.process(0, Kit.LINKS), 0);
     }
 
     private static void noticeOfNormal() {
         TurnHost x = linkedPair(1, Kit.op(Kit.ATOM, 0, 14), Kit.op(Kit.NIL, 2));
-        Kit.due("NORMAL is told, too", x.digest(0, Kit.MESSAGE), notice(1, 1, 14));
+        Kit.due("NORMAL is told, too", x.digest(0, Kit.MESSAGE), Kit.notice(1, 1, 14));
     }
 
     private static void noticeOfAHeavyReason() {
@@ -159,7 +150,7 @@ public final class ProcessOperationsTest {
         y.begin(0, 3);
         Kit.runOut(y);
         Kit.due("weight 13 as it is", y.term(1, Kit.REASON), 4001300);
-        Kit.due("told as FAULT", y.digest(0, Kit.MESSAGE), notice(1, 1, 13));
+        Kit.due("told as FAULT", y.digest(0, Kit.MESSAGE), Kit.notice(1, 1, 13));
     }
 
     private static void noticeIntoAFullMailbox() {
@@ -193,8 +184,8 @@ public final class ProcessOperationsTest {
         x.run(1);
         Kit.due("1 ended with the same", x.term(1, Kit.REASON), Kit.AN_INT + 33);
         Kit.due("2 heard twice", x.process(2, Kit.MAIL), 2);
-        Kit.due("first of 1", x.digest(2, Kit.MESSAGE), notice(1, 0, 33));
-        Kit.due("then of 0", x.digest(2, Kit.MESSAGE + 1), notice(0, 0, 33));
+        Kit.due("first of 1", x.digest(2, Kit.MESSAGE), Kit.notice(1, 0, 33));
+        Kit.due("then of 0", x.digest(2, Kit.MESSAGE + 1), Kit.notice(0, 0, 33));
         Kit.due("no links", x.process(0, Kit.LINKS) + x.process(1, Kit.LINKS) + x.process(2, Kit.LINKS), 0);
         Kit.due("2 is the only one ready", x.queue(0) * 10 + x.queue(1), 19);
     }
@@ -212,7 +203,7 @@ public final class ProcessOperationsTest {
         Kit.runOut(y);
         y.tell(0, 1);
         y.run(1);
-        Kit.due("one that traps hears of it", y.digest(1, Kit.MESSAGE), notice(0, 1, 12));
+        Kit.due("one that traps hears of it", y.digest(1, Kit.MESSAGE), Kit.notice(0, 1, 12));
         Kit.due("and is ready", y.process(1, Kit.STATE), Kit.READY);
     }
 
@@ -221,7 +212,7 @@ public final class ProcessOperationsTest {
         Kit.due("KILLED", x.term(0, Kit.REASON), Kit.KILLED);
         Kit.due("two reductions", x.process(0, Kit.DONE), 2);
         TurnHost y = Kit.ran(1, Kit.op(Kit.TRAP, 1), Kit.op(Kit.SELF, 1), Kit.op(Kit.STOP, 1), Kit.op(Kit.RETURN));
-        Kit.due("it traps", y.digest(0, Kit.MESSAGE), notice(0, 1, 12));
+        Kit.due("it traps", y.digest(0, Kit.MESSAGE), Kit.notice(0, 1, 12));
         Kit.due("and goes on", y.term(0, Kit.REASON), Kit.NORMAL);
     }
 

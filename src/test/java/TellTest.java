@@ -26,6 +26,7 @@ public final class TellTest {
         Kit.due("and is there once", x.queue(2), -1);
     }
 
+    /** "false if there is no such process" */
     private static void noSuchProcess() {
         TurnHost x = new TurnHost(4);
         x.begin(0, 0);
@@ -38,6 +39,7 @@ public final class TellTest {
         Kit.due("tell one that is gone", x.tell(0, 1), false);
     }
 
+    /** "false if ... it has ended" */
     private static void endedProcess() {
         TurnHost x = Kit.ran(0, Kit.op(Kit.RETURN));
         Kit.due("tell", x.tell(0, 1), false);
@@ -45,6 +47,7 @@ public final class TellTest {
         Kit.due("it has ended still", x.process(0, Kit.STATE), Kit.ENDED);
     }
 
+    /** "as by SEND": "if that waits, it is ready" */
     private static void wakesOneThatWaits() {
         TurnHost x = Kit.host(4, Kit.op(Kit.WAIT, 1), Kit.op(Kit.JUMP, 1));
         x.begin(0, 0);
@@ -72,6 +75,7 @@ public final class TellTest {
         Kit.due("now there is one at the mark", x.run(15), 15);
     }
 
+    /** "as by SEND": more than 12 are lost, which is no reason to answer false */
     private static void theThirteenthIsLost() {
         TurnHost x = new TurnHost(4);
         x.begin(0, 0);
@@ -84,6 +88,7 @@ public final class TellTest {
         Kit.due("none behind it", x.term(0, Kit.MESSAGE + 12), -1);
     }
 
+    /** "as by SEND": "nothing if it ... has 12 messages" */
     private static void lostOneWakesNobody() {
         TurnHost x = Kit.host(50, Kit.op(Kit.PEEK, 1, 2), Kit.op(Kit.NEXT, 0), Kit.op(Kit.WAIT, 0));
         x.begin(0, 0);
