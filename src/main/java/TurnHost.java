@@ -654,7 +654,8 @@ public final class TurnHost {
 
         private boolean goBack(HostProcess p) {
             if (p.returnCount <= 0) {
-                return finish(p, society.atoms[ATOM_NORMAL]);
+                society.end(p, society.atoms[ATOM_NORMAL]);
+                return true;
             }
             p.returnCount--;
             return p.goTo(p.returns[p.returnCount]);
